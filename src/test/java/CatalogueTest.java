@@ -279,6 +279,7 @@ final class CatalogueTest {
         DUE.due("P12 glassWithAbbe(64119)", desk.glassWithAbbe(64119), 0);
         DUE.due("P12 glassWithAbbe(64120)", desk.glassWithAbbe(64120), AchromatDesk.NOTHING);
         DUE.due("P12 glassWithAbbe(max)", desk.glassWithAbbe(Integer.MAX_VALUE), AchromatDesk.NOTHING);
+        DUE.due("P12 glassWithAbbe(0), the first", Due.deskWith(Due.SF10, Due.F2, Due.BK7).glassWithAbbe(0), 0);
         DUE.due("P12 glassWithAbbe(0) of none", new AchromatDesk().glassWithAbbe(0), AchromatDesk.NOTHING);
     }
 }

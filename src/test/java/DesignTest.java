@@ -9,6 +9,7 @@ final class DesignTest {
         doubletPower();
         doubletPowerErrors();
         secondarySpectrum();
+        theLeastE();
         doubletsInOrder();
         doubletsOfEqualSpectrumBadness();
         doubletsOfEqualStrain();
@@ -63,8 +64,20 @@ final class DesignTest {
         DUE.due("P14 (3, 2, 5)", desk.secondarySpectrum(3, 2, 5), AchromatDesk.NOTHING);
     }
 
+    /** A * B is 30001 * 3 against 45001 * 2, so that E is 1 one way round and -1 the other. */
+    private static void theLeastE() {
+        AchromatDesk desk = Due.deskWith("LOW 130002 130001 130000", "NEXT 145003 145001 145000");
+        DUE.due("P13 E is 1, first lens", desk.doubletPower(0, 1, 10000, 0), 900030000000L);
+        DUE.due("P13 E is 1, second lens", desk.doubletPower(0, 1, 10000, 1), -900020000000L);
+        DUE.due("P13 E is -1, first lens", desk.doubletPower(1, 0, 10000, 0), -900020000000L);
+        DUE.due("P13 E is -1, second lens", desk.doubletPower(1, 0, 10000, 1), 900030000000L);
+        DUE.due("P14 E is 1", desk.secondarySpectrum(0, 1, 10000), -10000000000L);
+        DUE.due("P14 E is -1", desk.secondarySpectrum(1, 0, 10000), -10000000000L);
+        ranking(desk, false, 1);
+        ranking(desk, true, 1);
+    }
+
     private static void ranking(AchromatDesk desk, boolean byStrain, int... codes) {
-        DUE.due("P16 doubletCount()", desk.doubletCount(), codes.length);
         for (int place = 0; place < codes.length; place++) {
             DUE.due("P15 (" + byStrain + ", " + place + ")", desk.doubletAt(byStrain, place), codes[place]);
         }
@@ -72,6 +85,7 @@ final class DesignTest {
         DUE.due("P15 the place -1", desk.doubletAt(byStrain, -1), AchromatDesk.NOTHING);
         DUE.due("P15 the least place", desk.doubletAt(byStrain, Integer.MIN_VALUE), AchromatDesk.NOTHING);
         DUE.due("P15 the greatest place", desk.doubletAt(byStrain, Integer.MAX_VALUE), AchromatDesk.NOTHING);
+        DUE.due("P16 doubletCount()", desk.doubletCount(), codes.length);
     }
 
     private static void doubletsInOrder() {
@@ -80,6 +94,9 @@ final class DesignTest {
         ranking(desk, true, 402, 302, 401, 2, 301, 1, 400, 102, 403, 300);
         DUE.due("P15 removeGlass(3)", desk.removeGlass(3), 4);
         ranking(desk, false, 300, 301, 302, 102, 2, 1);
+        AchromatDesk near = Due.deskWith("A 168155 167663 166881", "B 165630 164842 163390",
+            "C 175822 175081 173601", "D 181073 179914 179187");
+        ranking(near, true, 1, 2, 301, 3, 302, 201);
         ranking(Due.deskWith(Due.BK7), true);
         ranking(Due.deskWith(SINGLE, DOUBLE), false);
         ranking(Due.deskWith(Due.F2, Due.BK7), false, 100);

@@ -27,6 +27,15 @@ final class DigestTest {
         DUE.due("P30 of a new desk", new AchromatDesk().digest(), 5283485657078775671L);
         DUE.due("P30 of a desk with one glass", Due.deskWith(Due.BK7).digest(), 7340540853540392555L);
         DUE.due("P30 of a rich desk", rich().digest(), -3159568912972595622L);
+        // Here findWrongGlass answers another number if two of the three powers are mixed up.
+        AchromatDesk desk = Due.deskWith(Due.BK7, Due.F2, Due.SF10, Due.LAK9, Due.FK51);
+        desk.addLens(1, 7405884);
+        desk.addLens(4, -968403);
+        desk.addLens(0, 7852377);
+        desk.addLens(1, -470236);
+        desk.addPlate(1000);
+        desk.addPlate(1000000);
+        DUE.due("P30 of a desk with an empty buffer", desk.digest(), -4909511108028855579L);
     }
 
     private static void differs(String what, AchromatDesk desk) {

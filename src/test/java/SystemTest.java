@@ -7,9 +7,11 @@ final class SystemTest {
     public static void main(String[] args) {
         addLens();
         removeLens();
+        removeFromAFullSystem();
         systemPower();
         balancePower();
         findWrongGlass();
+        findWrongGlassByEachColour();
         findWrongGlassAmongEquals();
         findWrongGlassErrors();
         DUE.end();
@@ -53,6 +55,21 @@ final class SystemTest {
         DUE.due("P21 lensCount()", desk.lensCount(), 0);
         DUE.due("P20 removeLens(0) of none", desk.removeLens(0), AchromatDesk.NO_SUCH_LENS);
         DUE.due("P19 addLens(0, 5) again", desk.addLens(0, 5), 0);
+    }
+
+    private static void removeFromAFullSystem() {
+        AchromatDesk desk = Due.deskWith(Due.F2, Due.BK7);
+        for (int lens = 0; lens < 8; lens++) {
+            desk.addLens(1, 1 << lens);
+        }
+        DUE.due("P6 removeGlass(0) below eight lenses", desk.removeGlass(0), 1);
+        DUE.due("P22 systemPower(1) of eight", desk.systemPower(1), 255000);
+        DUE.due("P20 removeLens(8)", desk.removeLens(8), AchromatDesk.NO_SUCH_LENS);
+        DUE.due("P20 removeLens(0) of eight", desk.removeLens(0), 7);
+        DUE.due("P20 removeLens(6), the last", desk.removeLens(6), 6);
+        DUE.due("P22 systemPower(1) of six", desk.systemPower(1), 126000);
+        DUE.due("P19 addLens(0, 1000)", desk.addLens(0, 1000), 6);
+        DUE.due("P22 systemPower(1) of seven", desk.systemPower(1), 1126000);
     }
 
     private static void powers(String what, AchromatDesk desk, long forF, long forD, long forC) {
@@ -114,6 +131,38 @@ final class SystemTest {
         AchromatDesk one = Due.deskWith(Due.BK7, Due.F2);
         one.addLens(1, 77);
         DUE.due("P24 a single other glass", one.findWrongGlass(0, 0, 0), 0);
+    }
+
+    /** The exact powers of every single change, one colour far off, and powers near the system's. */
+    private static void findWrongGlassByEachColour() {
+        AchromatDesk desk = Due.deskWith(Due.BK7, Due.F2, Due.SF10, Due.LAK9, Due.FK51);
+        desk.addLens(0, 5000000);
+        desk.addLens(1, -2000000);
+        desk.addLens(3, 123457);
+        long[][] rows = {
+            {4201189375L, 4122296009L, 4089633447L, 1},
+            {5308000520L, 5169219383L, 5113143509L, 2},
+            {4838573276L, 4808828517L, 4794838556L, 3},
+            {2831994328L, 2830887340L, 2829378029L, 4},
+            {3493698505L, 3456467773L, 3439928522L, 100},
+            {2770841915L, 2774415002L, 2773745695L, 102},
+            {2927347947L, 2894568541L, 2879867881L, 103},
+            {3596337045L, 3554009867L, 3535148185L, 104},
+            {3108480496L, 3092333686L, 3083960269L, 200},
+            {3128079965L, 3110778984L, 3101958906L, 201},
+            {3148519155L, 3130112243L, 3120859798L, 202},
+            {3102795399L, 3086930879L, 3078686100L, 204},
+            {-860149634L, 3123457000L, 3114981744L, 201},
+            {3139850366L, 3123457000L, 3114981744L, 202},
+            {3139850366L, -876543000L, 3114981744L, 201},
+            {3139850366L, 3123457000L, -885018256L, 201},
+            {3108582288L, 3161973832L, 3093236565L, 200},
+            {3086012359L, 3121048439L, 3162840162L, 201},
+        };
+        for (long[] row : rows) {
+            DUE.due("P24 findWrongGlass(" + row[0] + ", " + row[1] + ", " + row[2] + ")",
+                desk.findWrongGlass(row[0], row[1], row[2]), row[3]);
+        }
     }
 
     private static void findWrongGlassAmongEquals() {
