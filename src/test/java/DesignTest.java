@@ -22,7 +22,7 @@ final class DesignTest {
     }
 
     private static void doubletPower() {
-        AchromatDesk desk = Due.deskWith(Due.BK7, Due.F2);
+        CountedDesk desk = Due.deskWith(Due.BK7, Due.F2);
         DUE.due("P13 (0, 1, 1000, 0)", desk.doubletPower(0, 1, 1000, 0), 2315686);
         DUE.due("P13 (0, 1, 1000, 1)", desk.doubletPower(0, 1, 1000, 1), -1315687);
         DUE.due("P13 (0, 1, -1000, 0)", desk.doubletPower(0, 1, -1000, 0), -2315687);
@@ -35,7 +35,7 @@ final class DesignTest {
     }
 
     private static void doubletPowerErrors() {
-        AchromatDesk desk = Due.deskWith(Due.BK7, Due.F2, SINGLE, DOUBLE);
+        CountedDesk desk = Due.deskWith(Due.BK7, Due.F2, SINGLE, DOUBLE);
         DUE.due("P13 (-1, 0, 0, 0)", desk.doubletPower(-1, 0, 0, 0), AchromatDesk.NO_SUCH_GLASS);
         DUE.due("P13 (0, 4, 0, 0)", desk.doubletPower(0, 4, 0, 0), AchromatDesk.NO_SUCH_GLASS);
         DUE.due("P13 (4, 0, 10001, 2)", desk.doubletPower(4, 0, 10001, 2), AchromatDesk.NO_SUCH_GLASS);
@@ -49,7 +49,7 @@ final class DesignTest {
     }
 
     private static void secondarySpectrum() {
-        AchromatDesk desk = Due.deskWith(Due.BK7, Due.F2, SINGLE, DOUBLE);
+        CountedDesk desk = Due.deskWith(Due.BK7, Due.F2, SINGLE, DOUBLE);
         DUE.due("P14 (0, 1, 1000)", desk.secondarySpectrum(0, 1, 1000), -545175);
         DUE.due("P14 (0, 1, -1000)", desk.secondarySpectrum(0, 1, -1000), 545174);
         DUE.due("P14 (1, 0, 1000)", desk.secondarySpectrum(1, 0, 1000), -545175);
@@ -66,7 +66,7 @@ final class DesignTest {
 
     /** A * B is 30001 * 3 against 45001 * 2, so that E is 1 one way round and -1 the other. */
     private static void theLeastE() {
-        AchromatDesk desk = Due.deskWith("LOW 130002 130001 130000", "NEXT 145003 145001 145000");
+        CountedDesk desk = Due.deskWith("LOW 130002 130001 130000", "NEXT 145003 145001 145000");
         DUE.due("P13 E is 1, first lens", desk.doubletPower(0, 1, 10000, 0), 900030000000L);
         DUE.due("P13 E is 1, second lens", desk.doubletPower(0, 1, 10000, 1), -900020000000L);
         DUE.due("P13 E is -1, first lens", desk.doubletPower(1, 0, 10000, 0), -900020000000L);
@@ -77,7 +77,7 @@ final class DesignTest {
         ranking(desk, true, 1);
     }
 
-    private static void ranking(AchromatDesk desk, boolean byStrain, int... codes) {
+    private static void ranking(CountedDesk desk, boolean byStrain, int... codes) {
         for (int place = 0; place < codes.length; place++) {
             DUE.due("P15 (" + byStrain + ", " + place + ")", desk.doubletAt(byStrain, place), codes[place]);
         }
@@ -89,12 +89,12 @@ final class DesignTest {
     }
 
     private static void doubletsInOrder() {
-        AchromatDesk desk = Due.deskWith(Due.BK7, Due.F2, Due.SF10, Due.LAK9, Due.FK51);
+        CountedDesk desk = Due.deskWith(Due.BK7, Due.F2, Due.SF10, Due.LAK9, Due.FK51);
         ranking(desk, false, 403, 400, 401, 402, 301, 302, 102, 2, 1, 300);
         ranking(desk, true, 402, 302, 401, 2, 301, 1, 400, 102, 403, 300);
         DUE.due("P15 removeGlass(3)", desk.removeGlass(3), 4);
         ranking(desk, false, 300, 301, 302, 102, 2, 1);
-        AchromatDesk near = Due.deskWith("A 168155 167663 166881", "B 165630 164842 163390",
+        CountedDesk near = Due.deskWith("A 168155 167663 166881", "B 165630 164842 163390",
             "C 175822 175081 173601", "D 181073 179914 179187");
         ranking(near, true, 1, 2, 301, 3, 302, 201);
         ranking(Due.deskWith(Due.BK7), true);
@@ -104,7 +104,7 @@ final class DesignTest {
 
     /** D is half of B in each glass, so that every spectrum badness is 0. */
     private static void doubletsOfEqualSpectrumBadness() {
-        AchromatDesk desk = Due.deskWith("A 150200 150100 150000", "B 160400 160200 160000",
+        CountedDesk desk = Due.deskWith("A 150200 150100 150000", "B 160400 160200 160000",
             "C 151000 150500 150000", "D 150200 150100 150000");
         ranking(desk, false, 2, 302, 102, 1, 301);
         ranking(desk, true, 2, 302, 102, 1, 301);
@@ -112,7 +112,7 @@ final class DesignTest {
 
     /** Glasses 0, 1 and 3 have the same A and B, and 1 another D. */
     private static void doubletsOfEqualStrain() {
-        AchromatDesk desk = Due.deskWith("A 150300 150000 149800", "B 150200 150000 149700",
+        CountedDesk desk = Due.deskWith("A 150300 150000 149800", "B 150200 150000 149700",
             "C 160900 160000 159500", "D 150300 150000 149800");
         ranking(desk, true, 2, 302, 102);
         ranking(desk, false, 2, 302, 102);
@@ -120,9 +120,10 @@ final class DesignTest {
 
     /** The 190 doublets of 20 glasses of which each has a greater B than the one before. */
     private static void doubletsOfAFullCatalogue() {
-        AchromatDesk desk = new AchromatDesk();
+        CountedDesk desk = new CountedDesk();
         for (int glass = 0; glass < 20; glass++) {
-            Due.add(desk, Due.glass("G" + glass, 150001 + glass, 150000, 149999 - glass));
+            Due.type(desk, Due.glass("" + (char) ('A' + glass), 150001 + glass, 150000, 149999 - glass));
+            desk.addGlass();
         }
         DUE.due("P16 doubletCount() of 20 glasses", desk.doubletCount(), 190);
         // Of B = 2 and B = 40 the strain is 42 / 38, of the last two it is 78 / 2.
@@ -132,7 +133,7 @@ final class DesignTest {
     }
 
     private static void tripletPower() {
-        AchromatDesk desk = Due.deskWith(Due.BK7, Due.F2, Due.SF10);
+        CountedDesk desk = Due.deskWith(Due.BK7, Due.F2, Due.SF10);
         long[] up = {-180305, 501740, -311437};
         long[] down = {180304, -501741, 311436};
         long[] turned = {-31144, -18031, 50174};
@@ -147,7 +148,7 @@ final class DesignTest {
     }
 
     private static void tripletPowerErrors() {
-        AchromatDesk desk = Due.deskWith(Due.BK7, Due.F2, "A 150200 150100 150000",
+        CountedDesk desk = Due.deskWith(Due.BK7, Due.F2, "A 150200 150100 150000",
             "B 160400 160200 160000", "C 151000 150500 150000");
         DUE.due("P17 a first that is none", desk.tripletPower(-1, 0, 1, 0, 0), AchromatDesk.NO_SUCH_GLASS);
         DUE.due("P17 a second that is none", desk.tripletPower(0, 5, 1, 0, 0), AchromatDesk.NO_SUCH_GLASS);
@@ -166,15 +167,15 @@ final class DesignTest {
     }
 
     private static void bestTriplet() {
-        AchromatDesk desk = Due.deskWith(Due.BK7, Due.F2, Due.SF10, Due.LAK9, Due.FK51);
+        CountedDesk desk = Due.deskWith(Due.BK7, Due.F2, Due.SF10, Due.LAK9, Due.FK51);
         DUE.due("P18 bestTriplet()", desk.bestTriplet(), 204);
         DUE.due("P18 removeGlass(0)", desk.removeGlass(0), 4);
         DUE.due("P18 bestTriplet() without BK7", desk.bestTriplet(), 10203);
         DUE.due("P18 of two", Due.deskWith(Due.BK7, Due.F2).bestTriplet(), AchromatDesk.NOTHING);
-        AchromatDesk flat = Due.deskWith("A 150200 150100 150000", "B 160400 160200 160000",
+        CountedDesk flat = Due.deskWith("A 150200 150100 150000", "B 160400 160200 160000",
             "C 151000 150500 150000");
         DUE.due("P18 where T is 0", flat.bestTriplet(), AchromatDesk.NOTHING);
-        AchromatDesk twins = Due.deskWith("A 150300 150000 149800", "B 150200 150000 149700",
+        CountedDesk twins = Due.deskWith("A 150300 150000 149800", "B 150200 150000 149700",
             "C 160900 160000 159500", "D 150300 150000 149800", "E 160900 160000 159500");
         DUE.due("P18 with twins", twins.bestTriplet(), 102);
         DUE.due("P18 removeGlass(0) of twins", twins.removeGlass(0), 4);
@@ -183,10 +184,10 @@ final class DesignTest {
 
     /** Catalogues in which another triplet would win if the powers were not rounded, or not down. */
     private static void bestTripletOfRoundedPowers() {
-        AchromatDesk rounded = Due.deskWith("A 153592 153547 153496", "B 185239 185197 185149",
+        CountedDesk rounded = Due.deskWith("A 153592 153547 153496", "B 185239 185197 185149",
             "C 170887 170839 170822", "D 185240 185198 185150");
         DUE.due("P18 equal when rounded", rounded.bestTriplet(), 102);
-        AchromatDesk down = Due.deskWith("A 187180 187132 187127", "B 178896 178862 178829",
+        CountedDesk down = Due.deskWith("A 187180 187132 187127", "B 178896 178862 178829",
             "C 161062 161012 160984", "D 161061 161011 160983");
         DUE.due("P18 rounded down", down.bestTriplet(), 103);
     }

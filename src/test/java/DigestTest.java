@@ -4,31 +4,20 @@ final class DigestTest {
 
     public static void main(String[] args) {
         knownDigests();
+        errorCodesAsValues();
+        fullAndEmptyParts();
         everyPartCounts();
         digestChangesNothing();
         errorsChangeNothing();
         DUE.end();
     }
 
-    private static AchromatDesk rich() {
-        AchromatDesk desk = Due.deskWith(Due.BK7, Due.F2, Due.SF10, Due.LAK9, Due.FK51);
-        desk.addLens(0, 5000000);
-        desk.addLens(1, -2000000);
-        desk.addLens(3, 123457);
-        desk.addPlate(80000);
-        desk.addPlate(100000);
-        desk.addPlate(250000);
-        desk.addPlate(33333);
-        Due.type(desk, "K5 1~");
-        return desk;
-    }
-
     private static void knownDigests() {
-        DUE.due("P30 of a new desk", new AchromatDesk().digest(), 5283485657078775671L);
+        DUE.due("P30 of a new desk", new CountedDesk().digest(), 5283485657078775671L);
         DUE.due("P30 of a desk with one glass", Due.deskWith(Due.BK7).digest(), 7340540853540392555L);
-        DUE.due("P30 of a rich desk", rich().digest(), -3159568912972595622L);
+        DUE.due("P30 of a rich desk", Desks.rich().digest(), -3159568912972595622L);
         // Here findWrongGlass answers another number if two of the three powers are mixed up.
-        AchromatDesk desk = Due.deskWith(Due.BK7, Due.F2, Due.SF10, Due.LAK9, Due.FK51);
+        CountedDesk desk = Due.deskWith(Due.BK7, Due.F2, Due.SF10, Due.LAK9, Due.FK51);
         desk.addLens(1, 7405884);
         desk.addLens(4, -968403);
         desk.addLens(0, 7852377);
@@ -38,18 +27,55 @@ final class DigestTest {
         DUE.due("P30 of a desk with an empty buffer", desk.digest(), -4909511108028855579L);
     }
 
-    private static void differs(String what, AchromatDesk desk) {
-        DUE.isTrue("P30 the digest differs behind " + what, desk.digest() != rich().digest());
+    /** "Where a method returns an error code, the code is the value": each method that can, alone. */
+    private static void errorCodesAsValues() {
+        CountedDesk noPlates = Due.deskWith(Due.BK7);
+        noPlates.addLens(0, 1000);
+        DUE.due("P30 no plates and no other glass", noPlates.digest(), -2441735145619292067L);
+        noPlates.addPlate(1000);
+        DUE.due("P30 no other glass", noPlates.digest(), 1677473159135582833L);
+        DUE.due("P30 no doublet, as E is 0",
+            Due.deskWith("P 150150 150000 149950", "R 200100 200000 199700").digest(), 4078307282193422466L);
+        DUE.due("P30 one doublet", Due.deskWith(Due.BK7, Due.F2).digest(), -2343306499219895866L);
+        DUE.due("P30 three doublets", Due.deskWith(Due.BK7, Due.F2, Due.SF10).digest(), -7902015187333878183L);
+        DUE.due("P30 four doublets, no triplet", Due.deskWith(Due.BK7, "U 152238 151680 151432", Due.F2,
+            "V 163208 162004 161506").digest(), -1378376927004805637L);
+        DUE.due("P30 no triplet, as T is 0", Due.deskWith("A 150200 150100 150000",
+            "B 160400 160200 160000", "C 151000 150500 150000").digest(), 4603349488768240460L);
+    }
+
+    private static void fullAndEmptyParts() {
+        CountedDesk plates = new CountedDesk();
+        for (int plate = 1; plate <= 16; plate++) {
+            plates.addPlate(1000 * plate);
+        }
+        DUE.due("P30 16 plates alone", plates.digest(), 2014596142676071623L);
+        CountedDesk blank = new CountedDesk();
+        blank.append(32);
+        DUE.due("P30 a blank alone", blank.digest(), -2232641293943918680L);
+        CountedDesk buffer = new CountedDesk();
+        Due.type(buffer, "~".repeat(28));
+        DUE.due("P30 28 signs alone", buffer.digest(), -8785029977852051053L);
+        CountedDesk lenses = Due.deskWith(Due.BK7, Due.F2);
+        for (int lens = 0; lens < 8; lens++) {
+            lenses.addLens(1, -10000000);
+        }
+        lenses.addPlate(1000000);
+        DUE.due("P30 8 lenses and a plate", lenses.digest(), -1126125883644238347L);
+    }
+
+    private static void differs(String what, CountedDesk desk) {
+        DUE.isTrue("P30 the digest differs behind " + what, desk.digest() != Desks.rich().digest());
     }
 
     private static void everyPartCounts() {
-        AchromatDesk desk = rich();
+        CountedDesk desk = Desks.rich();
         desk.append(32);
         differs("append(32)", desk);
         desk.clearBuffer();
         differs("clearBuffer()", desk);
         Due.type(desk, "K5 1~");
-        DUE.due("P30 with the same buffer again", desk.digest(), rich().digest());
+        DUE.due("P30 with the same buffer again", desk.digest(), Desks.rich().digest());
         desk.removeLens(2);
         differs("removeLens(2)", desk);
         desk.addLens(3, 123456);
@@ -57,16 +83,16 @@ final class DigestTest {
         desk.removeLens(2);
         desk.addLens(2, 123457);
         differs("another glass of a lens", desk);
-        desk = rich();
+        desk = Desks.rich();
         desk.addPlate(1000);
         differs("addPlate(1000)", desk);
-        desk = rich();
+        desk = Desks.rich();
         desk.removeGlass(4);
         differs("removeGlass(4)", desk);
     }
 
     private static void digestChangesNothing() {
-        AchromatDesk desk = rich();
+        CountedDesk desk = Desks.rich();
         long first = desk.digest();
         desk.doubletAt(true, 3);
         desk.doubletCount();
@@ -78,7 +104,7 @@ final class DigestTest {
     }
 
     private static void errorsChangeNothing() {
-        AchromatDesk desk = rich();
+        CountedDesk desk = Desks.rich();
         long before = desk.digest();
         long[] answers = {
             desk.append(31), desk.append(127), desk.addGlass(), desk.removeGlass(0), desk.removeGlass(5),

@@ -29,23 +29,24 @@ final class Due {
         }
     }
 
-    static void type(AchromatDesk desk, String text) {
+    static void type(CountedDesk desk, String text) {
         for (int at = 0; at < text.length(); at++) {
             desk.append(text.charAt(at));
         }
     }
 
     /** Types the text into an empty buffer and adds the glass. */
-    static long add(AchromatDesk desk, String text) {
+    static long add(CountedDesk desk, String text) {
         desk.clearBuffer();
         type(desk, text);
         return desk.addGlass();
     }
 
-    static AchromatDesk deskWith(String... glasses) {
-        AchromatDesk desk = new AchromatDesk();
+    static CountedDesk deskWith(String... glasses) {
+        CountedDesk desk = new CountedDesk();
         for (String glass : glasses) {
-            if (add(desk, glass) < 0) {
+            type(desk, glass);
+            if (desk.addGlass() < 0) {
                 throw new IllegalStateException("the test's own glass is refused: " + glass);
             }
         }

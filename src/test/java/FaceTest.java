@@ -67,7 +67,8 @@ final class FaceTest {
                 DUE.isTrue(field + " is public", Modifier.isPublic(modifiers));
                 DUE.isTrue(field + " is a long", field.getType() == long.class);
             }
-            DUE.isTrue(field + " is final", Modifier.isFinal(modifiers));
+            DUE.isTrue(field + " is final if static",
+                Modifier.isFinal(modifiers) || !Modifier.isStatic(modifiers));
         }
         DUE.isTrue("the constants are those of the document: " + open, open.equals(CONSTANTS));
         DUE.due("OUT_OF_RANGE", AchromatDesk.OUT_OF_RANGE, -9000000000000000001L);
@@ -85,15 +86,18 @@ final class FaceTest {
         METHODS.forEach(signature -> taken.add(signature.substring(0, signature.indexOf('('))));
         noneOf(taken, AchromatDesk.class);
         for (Class<?> inside : AchromatDesk.class.getDeclaredClasses()) {
-            DUE.isTrue(inside + " is static", Modifier.isStatic(inside.getModifiers()));
+            int modifiers = inside.getModifiers();
+            DUE.isTrue(inside + " is static", Modifier.isStatic(modifiers));
+            DUE.isTrue(inside + " is not open",
+                !Modifier.isPublic(modifiers) && !Modifier.isProtected(modifiers));
             noneOf(taken, inside);
         }
     }
 
     private static void noneOf(Set<String> taken, Class<?> owner) {
         for (Method method : owner.getDeclaredMethods()) {
-            boolean isInside = owner != AchromatDesk.class || Modifier.isPrivate(method.getModifiers());
-            DUE.isTrue(method + " bears no public name", !isInside || !taken.contains(method.getName()));
+            boolean isPrivate = Modifier.isPrivate(method.getModifiers());
+            DUE.isTrue(method + " bears no public name", !isPrivate || !taken.contains(method.getName()));
         }
     }
 }

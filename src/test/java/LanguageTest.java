@@ -10,33 +10,50 @@ import java.util.regex.Pattern;
 final class LanguageTest {
     private static final Path PROGRAM = Path.of("src/main/java/AchromatDesk.java");
     private static final List<String> FORBIDDEN = List.of(
-        "throw", "throws", "try", "catch", "finally", "synchronized", "assert", "import", "package",
-        "instanceof", "double", "float", "Object", "protected", "native", "volatile", "transient");
+        "throw", "throws", "try", "catch", "finally", "synchronized", "assert", "package", "protected",
+        "native", "volatile", "Object", "System.nanoTime", "System.currentTimeMillis", "Thread",
+        "addExact", "subtractExact", "multiplyExact", "negateExact", "toIntExact", "incrementExact");
     private static final Pattern METHOD = Pattern.compile(
-        "(?m)^ +(?:public |private |static )*(?:void|int|long|boolean) (\\w+)\\(([^)]*)\\) \\{$");
-    private static final Pattern ROW_OR_PART = Pattern.compile(
-        "private final \\w+\\[\\] \\w+ = new \\w+\\[\\w+\\];|\\w+ = new \\w+\\(\\);");
+        "(?m)^ +(?:public |private |static |final )*[\\w\\[\\]]+ (\\w+)\\(([^)]*)\\) \\{$");
+    private static final Pattern IMPORT = Pattern.compile("import ([^;]+);");
     private static final Due DUE = new Due();
 
     public static void main(String[] args) throws IOException {
         String text = Files.readString(PROGRAM, StandardCharsets.US_ASCII);
         String code = text.replaceAll("(?s)/\\*.*?\\*/", "").replaceAll("//[^\n]*", "");
         forbiddenWords(code);
+        imports(code);
+        classes(code);
         methods(text);
-        objects(code);
         DUE.end();
     }
 
     private static void forbiddenWords(String code) {
         for (String word : FORBIDDEN) {
-            DUE.isTrue("the program does without " + word, !Pattern.compile("\\b" + word + "\\b").matcher(code).find());
+            DUE.isTrue("rules 4, 6, 13: the program does without " + word,
+                !Pattern.compile("\\b" + Pattern.quote(word) + "\\b").matcher(code).find());
         }
-        DUE.isTrue("no lambda", !code.contains("->"));
-        DUE.isTrue("no method reference", !code.contains("::"));
-        DUE.isTrue("no annotation", !code.contains("@"));
-        DUE.isTrue("no remainder or quotient of an unknown divisor",
-            !Pattern.compile("[^/*][/%] *[a-z(]").matcher(code).find());
-        DUE.isTrue("floorDiv in one place", code.split("floorDiv", -1).length == 2);
+        String withoutCases = code.replaceAll("(case [^;{}]*?|default) *->", "");
+        DUE.isTrue("rule 2: no lambda", !withoutCases.contains("->"));
+        DUE.isTrue("rule 2: no method reference", !code.contains("::"));
+        DUE.isTrue("rule 5: no static initialiser", !Pattern.compile("\\bstatic *\\{").matcher(code).find());
+    }
+
+    private static void imports(String code) {
+        List<String> allowed = List.of("java.util.ArrayList", "java.util.List", "java.util.Arrays", "java.util.Iterator");
+        Matcher matcher = IMPORT.matcher(code);
+        while (matcher.find()) {
+            DUE.isTrue("rule 4: import " + matcher.group(1), allowed.contains(matcher.group(1)));
+        }
+    }
+
+    private static void classes(String code) {
+        Matcher matcher = Pattern.compile("\\b(?:class|record|enum|interface) \\w+").matcher(code);
+        int found = 0;
+        while (matcher.find()) {
+            found++;
+        }
+        DUE.isTrue("rule 11: " + found + " classes", found >= 1 && found <= 12);
     }
 
     private static void methods(String text) {
@@ -45,18 +62,13 @@ final class LanguageTest {
         while (matcher.find()) {
             found++;
             String name = matcher.group(1);
-            DUE.isTrue(name + " has at most seven parameters", matcher.group(2).split(",").length <= 7);
+            DUE.isTrue("rule 11: " + name + " has at most seven parameters",
+                matcher.group(2).split(",").length <= 7);
             String indent = matcher.group().substring(0, matcher.group().indexOf(matcher.group().trim()));
             int end = text.indexOf("\n" + indent + "}\n", matcher.start());
-            long lines = text.substring(matcher.start(), end).lines().count();
-            DUE.isTrue(name + " is short, with " + lines + " lines", lines <= 40);
+            long lines = text.substring(matcher.start(), end < 0 ? text.length() : end).lines().count();
+            DUE.isTrue("rule 11: " + name + " is short, with " + lines + " lines", lines <= 60);
         }
-        DUE.isTrue("the methods are found", found > 60);
-    }
-
-    /** All rows are made with the desk, so that no call makes an object. */
-    private static void objects(String code) {
-        code.lines().filter(line -> line.matches(".*\\bnew\\b.*")).forEach(line ->
-            DUE.isTrue("made with the desk: " + line.trim(), ROW_OR_PART.matcher(line.trim()).matches()));
+        DUE.isTrue("the methods are found", found >= 29);
     }
 }

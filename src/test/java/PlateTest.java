@@ -17,7 +17,7 @@ final class PlateTest {
         DUE.end();
     }
 
-    private static AchromatDesk withPlates(AchromatDesk desk, int... radii) {
+    private static CountedDesk withPlates(CountedDesk desk, int... radii) {
         for (int radius : radii) {
             desk.addPlate(radius);
         }
@@ -25,7 +25,7 @@ final class PlateTest {
     }
 
     private static void addPlate() {
-        AchromatDesk desk = new AchromatDesk();
+        CountedDesk desk = new CountedDesk();
         int[] wrong = {999, 1000001, 0, -1000, Integer.MIN_VALUE, Integer.MAX_VALUE};
         for (int radius : wrong) {
             DUE.due("P25 addPlate(" + radius + ")", desk.addPlate(radius), AchromatDesk.OUT_OF_RANGE);
@@ -45,8 +45,8 @@ final class PlateTest {
     }
 
     private static void nearestPlate() {
-        DUE.due("P27 of none", new AchromatDesk().nearestPlate(5), AchromatDesk.NOTHING);
-        AchromatDesk desk = withPlates(new AchromatDesk(), 50000, 20000, 1000000);
+        DUE.due("P27 of none", new CountedDesk().nearestPlate(5), AchromatDesk.NOTHING);
+        CountedDesk desk = withPlates(new CountedDesk(), 50000, 20000, 1000000);
         DUE.due("P27 nearestPlate(35000)", desk.nearestPlate(35000), 1);
         DUE.due("P27 nearestPlate(35001)", desk.nearestPlate(35001), 0);
         DUE.due("P27 nearestPlate(34999)", desk.nearestPlate(34999), 1);
@@ -58,7 +58,7 @@ final class PlateTest {
     }
 
     private static void best(String glass, int power, long choice, int... radii) {
-        AchromatDesk desk = withPlates(Due.deskWith(glass), radii);
+        CountedDesk desk = withPlates(Due.deskWith(glass), radii);
         desk.addLens(0, power);
         DUE.due("P28 for " + power, desk.bestSurfaces(0), choice);
     }
@@ -70,7 +70,7 @@ final class PlateTest {
         best(Due.BK7, 5000000, 1, 80000);
         best(Due.BK7, -1, 2, 80000);
         best(Due.BK7, 10000000, 1011, 80000, 100000);
-        AchromatDesk desk = withPlates(Due.deskWith(Due.F2, Due.BK7), 80000, 100000);
+        CountedDesk desk = withPlates(Due.deskWith(Due.F2, Due.BK7), 80000, 100000);
         desk.addLens(0, 1);
         desk.addLens(1, 10000000);
         DUE.due("P28 the second lens", desk.bestSurfaces(1), 1011);
@@ -93,7 +93,7 @@ final class PlateTest {
     }
 
     private static void bestSurfacesErrors() {
-        AchromatDesk desk = Due.deskWith(Due.BK7);
+        CountedDesk desk = Due.deskWith(Due.BK7);
         DUE.due("P28 no lens, no plates", desk.bestSurfaces(0), AchromatDesk.NO_SUCH_LENS);
         desk.addLens(0, 1000);
         DUE.due("P28 no plates", desk.bestSurfaces(0), AchromatDesk.NOTHING);
@@ -104,7 +104,7 @@ final class PlateTest {
     }
 
     private static void surfacePower() {
-        AchromatDesk desk = withPlates(Due.deskWith(Due.BK7, TOP), 80000, 33333, 999999, 1000000, 1000);
+        CountedDesk desk = withPlates(Due.deskWith(Due.BK7, TOP), 80000, 33333, 999999, 1000000, 1000);
         DUE.due("P29 (0, 1)", desk.surfacePower(0, 1), 12920000);
         DUE.due("P29 (0, 2)", desk.surfacePower(0, 2), -12920000);
         DUE.due("P29 (0, 1000)", desk.surfacePower(0, 1000), 9044155);
@@ -115,7 +115,7 @@ final class PlateTest {
         DUE.due("P29 (1, 4041)", desk.surfacePower(1, 4041), 2599980000L);
         DUE.due("P29 (1, 4042)", desk.surfacePower(1, 4042), -2599980000L);
         DUE.due("P29 (1, 3031)", desk.surfacePower(1, 3031), 2599980);
-        AchromatDesk full = Due.deskWith(EVEN);
+        CountedDesk full = Due.deskWith(EVEN);
         for (int plate = 0; plate < 16; plate++) {
             full.addPlate(100000 - plate);
         }
@@ -126,7 +126,7 @@ final class PlateTest {
     }
 
     private static void surfacePowerErrors() {
-        AchromatDesk desk = withPlates(Due.deskWith(Due.BK7), 80000, 33333);
+        CountedDesk desk = withPlates(Due.deskWith(Due.BK7), 80000, 33333);
         int[] wrong = {-1, -1001, Integer.MIN_VALUE, 4, 9, 1004, 20, 2000, 21, 1990, 100, 0, 3, 1010, 1013,
             Integer.MAX_VALUE, 2147483610};
         for (int choice : wrong) {

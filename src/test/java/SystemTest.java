@@ -18,7 +18,7 @@ final class SystemTest {
     }
 
     private static void addLens() {
-        AchromatDesk desk = Due.deskWith(Due.BK7, Due.F2);
+        CountedDesk desk = Due.deskWith(Due.BK7, Due.F2);
         DUE.due("P19 addLens(2, 1)", desk.addLens(2, 1), AchromatDesk.NO_SUCH_GLASS);
         DUE.due("P19 addLens(-1, 1)", desk.addLens(-1, 1), AchromatDesk.NO_SUCH_GLASS);
         DUE.due("P19 addLens(2, 10000001)", desk.addLens(2, 10000001), AchromatDesk.NO_SUCH_GLASS);
@@ -38,7 +38,7 @@ final class SystemTest {
     }
 
     private static void removeLens() {
-        AchromatDesk desk = Due.deskWith(Due.BK7, Due.F2);
+        CountedDesk desk = Due.deskWith(Due.BK7, Due.F2);
         desk.addLens(0, 1);
         desk.addLens(1, 20);
         desk.addLens(0, 300);
@@ -58,7 +58,7 @@ final class SystemTest {
     }
 
     private static void removeFromAFullSystem() {
-        AchromatDesk desk = Due.deskWith(Due.F2, Due.BK7);
+        CountedDesk desk = Due.deskWith(Due.F2, Due.BK7);
         for (int lens = 0; lens < 8; lens++) {
             desk.addLens(1, 1 << lens);
         }
@@ -72,7 +72,7 @@ final class SystemTest {
         DUE.due("P22 systemPower(1) of seven", desk.systemPower(1), 1126000);
     }
 
-    private static void powers(String what, AchromatDesk desk, long forF, long forD, long forC) {
+    private static void powers(String what, CountedDesk desk, long forF, long forD, long forC) {
         DUE.due("P22 F of " + what, desk.systemPower(0), forF);
         DUE.due("P22 d of " + what, desk.systemPower(1), forD);
         DUE.due("P22 C of " + what, desk.systemPower(2), forC);
@@ -80,25 +80,25 @@ final class SystemTest {
         DUE.due("P22 colour -1", desk.systemPower(-1), AchromatDesk.OUT_OF_RANGE);
     }
 
-    private static AchromatDesk eightOf(int power) {
-        AchromatDesk desk = Due.deskWith(WIDE, TOP);
+    private static CountedDesk eightOf(int power) {
+        CountedDesk desk = Due.deskWith(WIDE, TOP);
         for (int lens = 0; lens < 8; lens++) {
             desk.addLens(0, power);
         }
         return desk;
     }
 
-    private static AchromatDesk doublet() {
-        AchromatDesk desk = Due.deskWith(Due.BK7, Due.F2, Due.SF10);
+    private static CountedDesk doublet() {
+        CountedDesk desk = Due.deskWith(Due.BK7, Due.F2, Due.SF10);
         desk.addLens(0, 5000000);
         desk.addLens(1, -2000000);
         return desk;
     }
 
     private static void systemPower() {
-        powers("no lenses", new AchromatDesk(), 0, 0, 0);
+        powers("no lenses", new CountedDesk(), 0, 0, 0);
         powers("a doublet", doublet(), 3015149863L, 3000000000L, 2992069670L);
-        AchromatDesk small = Due.deskWith(Due.BK7);
+        CountedDesk small = Due.deskWith(Due.BK7);
         small.addLens(0, -1);
         powers("a lens of -1", small, -1011, -1000, -996);
         powers("eight strong lenses", eightOf(10000000), 106660444648L, 80000000000L, 79997333416L);
@@ -106,7 +106,7 @@ final class SystemTest {
     }
 
     private static void balancePower() {
-        AchromatDesk desk = doublet();
+        CountedDesk desk = doublet();
         DUE.due("P23 balancePower(0)", desk.balancePower(0), -1479882);
         DUE.due("P23 balancePower(1)", desk.balancePower(1), -840814);
         DUE.due("P23 balancePower(2)", desk.balancePower(2), -655800);
@@ -120,7 +120,7 @@ final class SystemTest {
     }
 
     private static void findWrongGlass() {
-        AchromatDesk desk = doublet();
+        CountedDesk desk = doublet();
         DUE.due("P24 the second of SF10",
             desk.findWrongGlass(2646141412L, 2650958002L, 2650833621L), 102);
         DUE.due("P24 the first of F2",
@@ -128,14 +128,14 @@ final class SystemTest {
         long limit = 1000000000000L;
         DUE.due("P24 the greatest measured", desk.findWrongGlass(limit, limit, limit), 2);
         DUE.due("P24 the least measured", desk.findWrongGlass(-limit, -limit, -limit), 102);
-        AchromatDesk one = Due.deskWith(Due.BK7, Due.F2);
+        CountedDesk one = Due.deskWith(Due.BK7, Due.F2);
         one.addLens(1, 77);
         DUE.due("P24 a single other glass", one.findWrongGlass(0, 0, 0), 0);
     }
 
     /** The exact powers of every single change, one colour far off, and powers near the system's. */
     private static void findWrongGlassByEachColour() {
-        AchromatDesk desk = Due.deskWith(Due.BK7, Due.F2, Due.SF10, Due.LAK9, Due.FK51);
+        CountedDesk desk = Due.deskWith(Due.BK7, Due.F2, Due.SF10, Due.LAK9, Due.FK51);
         desk.addLens(0, 5000000);
         desk.addLens(1, -2000000);
         desk.addLens(3, 123457);
@@ -166,23 +166,23 @@ final class SystemTest {
     }
 
     private static void findWrongGlassAmongEquals() {
-        AchromatDesk desk = Due.deskWith(Due.BK7, Due.F2, "TWIN 163208 162004 161506");
+        CountedDesk desk = Due.deskWith(Due.BK7, Due.F2, "TWIN 163208 162004 161506");
         desk.addLens(0, 5000000);
         desk.addLens(0, 5000000);
         long limit = 1000000000000L;
         DUE.due("P24 equal lenses and glasses", desk.findWrongGlass(limit, limit, limit), 1);
-        AchromatDesk twin = Due.deskWith(Due.BK7, Due.F2, "TWIN 163208 162004 161506");
+        CountedDesk twin = Due.deskWith(Due.BK7, Due.F2, "TWIN 163208 162004 161506");
         twin.addLens(1, 1000);
         DUE.due("P24 the twin counts as another glass",
             twin.findWrongGlass(twin.systemPower(0), twin.systemPower(1), twin.systemPower(2)), 2);
-        AchromatDesk zero = Due.deskWith(Due.BK7, Due.F2, Due.SF10);
+        CountedDesk zero = Due.deskWith(Due.BK7, Due.F2, Due.SF10);
         zero.addLens(1, 0);
         zero.addLens(0, 0);
         DUE.due("P24 lenses without power", zero.findWrongGlass(5, 5, 5), 0);
     }
 
     private static void findWrongGlassErrors() {
-        AchromatDesk desk = doublet();
+        CountedDesk desk = doublet();
         long over = 1000000000001L;
         DUE.due("P24 F over", desk.findWrongGlass(over, 0, 0), AchromatDesk.OUT_OF_RANGE);
         DUE.due("P24 d over", desk.findWrongGlass(0, over, 0), AchromatDesk.OUT_OF_RANGE);
@@ -191,10 +191,10 @@ final class SystemTest {
         DUE.due("P24 d under", desk.findWrongGlass(0, -over, 0), AchromatDesk.OUT_OF_RANGE);
         DUE.due("P24 C under", desk.findWrongGlass(0, 0, -over), AchromatDesk.OUT_OF_RANGE);
         DUE.due("P24 far out", desk.findWrongGlass(Long.MIN_VALUE, Long.MAX_VALUE, 0), AchromatDesk.OUT_OF_RANGE);
-        AchromatDesk empty = Due.deskWith(Due.BK7, Due.F2);
+        CountedDesk empty = Due.deskWith(Due.BK7, Due.F2);
         DUE.due("P24 no lenses", empty.findWrongGlass(0, 0, 0), AchromatDesk.NOTHING);
         DUE.due("P24 no lenses, over", empty.findWrongGlass(over, 0, 0), AchromatDesk.OUT_OF_RANGE);
-        AchromatDesk single = Due.deskWith(Due.BK7);
+        CountedDesk single = Due.deskWith(Due.BK7);
         single.addLens(0, 1000);
         DUE.due("P24 one glass", single.findWrongGlass(0, 0, 0), AchromatDesk.NOTHING);
         DUE.due("P24 one glass, under", single.findWrongGlass(0, 0, -over), AchromatDesk.OUT_OF_RANGE);
