@@ -17,6 +17,7 @@ final class DesignEdgesTest {
         theGreatestSpectra();
         theGreatestE();
         theGreatestTripletPowers();
+        exactWhereDoublesAreNot();
         noE();
         placesOfTheRanking();
         badnessesFarApart();
@@ -28,6 +29,7 @@ final class DesignEdgesTest {
         theLastTripletIsTheBest();
         equalTriplets();
         noT();
+        anExchangedGlass();
         DUE.end();
     }
 
@@ -145,6 +147,18 @@ final class DesignEdgesTest {
                 desk.tripletPower(2, 1, 0, 10000, lens), powers[2 - lens]);
         }
         DUE.due("P18 T is 1", desk.bestTriplet(), 102);
+    }
+
+    /** Quotients so close below a whole number that a division of doubles reaches it. */
+    private static void exactWhereDoublesAreNot() {
+        CountedDesk powers = Due.deskWith("I 216597 215055 209449", "J 206645 206169 197296",
+            "K 223262 219996 213901", "L 201727 200631 192667");
+        DUE.due("P13 exact", powers.doubletPower(0, 1, -9961, 0), -33826154);
+        DUE.due("P13 exact", powers.doubletPower(2, 3, -9747, 0), -73000872);
+        CountedDesk spectra = Due.deskWith("I 226239 218885 218839", "J 179774 176915 173683",
+            "K 220912 215665 212406", "L 209233 205373 199528");
+        DUE.due("P14 exact", spectra.secondarySpectrum(0, 1, -8045), -1227152715);
+        DUE.due("P14 exact", spectra.secondarySpectrum(2, 3, 5958), 476400022);
     }
 
     private static void noE() {
@@ -281,5 +295,18 @@ final class DesignEdgesTest {
             DUE.due("P17 twins, lens " + lens, desk.tripletPower(0, 3, 4, 1, lens), AchromatDesk.NOTHING);
         }
         DUE.due("P18 without those of T 0", desk.bestTriplet(), 203);
+    }
+
+    /** As many glasses as before, and the first of them the same, but another answer to all. */
+    private static void anExchangedGlass() {
+        CountedDesk desk = Due.deskWith(Due.BK7, Due.LAK9, Due.SF10);
+        ranking(desk, false, 102, 2, 100);
+        ranking(desk, true, 102, 2, 100);
+        DUE.due("P17 with SF10", desk.tripletPower(0, 1, 2, 10000, 1), 65411);
+        DUE.due("P6 removeGlass(2)", desk.removeGlass(2), 2);
+        DUE.due("P5 addGlass()", Due.add(desk, Due.FK51), 2);
+        ranking(desk, false, 201, 200, 100);
+        ranking(desk, true, 200, 201, 100);
+        DUE.due("P17 with FK51", desk.tripletPower(0, 1, 2, 10000, 1), -29207);
     }
 }

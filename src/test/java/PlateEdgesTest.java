@@ -35,6 +35,7 @@ final class PlateEdgesTest {
         farChoices();
         theGreatestSurfacePowers();
         surfacePowersAreRoundedDown();
+        exactWhereDoublesAreNot();
         DUE.end();
     }
 
@@ -285,5 +286,11 @@ final class PlateEdgesTest {
         DUE.due("P29 below 0, both minus", desk.surfacePower(0, 13), -2083334);
         DUE.due("P29 a whole number", desk.surfacePower(0, 1), 12500000);
         DUE.due("P29 a whole number below 0", desk.surfacePower(0, 2), -12500000);
+    }
+
+    /** Quotients so close below a whole number that a division of doubles reaches it. */
+    private static void exactWhereDoublesAreNot() {
+        DUE.due("P29 exact", with("X 201772 201672 201572", 937493, 906071).surfacePower(0, 12), -2206630);
+        DUE.due("P29 exact", with("X 228118 228018 227918", 932637, 921931).surfacePower(0, 12), -2761232);
     }
 }

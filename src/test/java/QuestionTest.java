@@ -11,6 +11,7 @@ final class QuestionTest {
         aNewDesk();
         aRichDesk();
         aFullDesk();
+        askedOverAndOver();
         DUE.end();
     }
 
@@ -57,5 +58,25 @@ final class QuestionTest {
             desk -> desk.findWrongGlass(6945703426L, 3580245000L, 4336435716L), 400);
         FULL.unchanged("P28 bestSurfaces(7) of 16 plates", desk -> desk.bestSurfaces(7), 9111);
         FULL.unchanged("P30 digest() of a full desk", CountedDesk::digest, -8024661616569125898L);
+    }
+
+    /** A question gets the same answer up to the 512th call. */
+    private static void askedOverAndOver() {
+        over(Desks.rich(), "P4 errorPosition()", CountedDesk::errorPosition, 4);
+        over(Desks.rich(), "P9 placeByName(4)", desk -> desk.placeByName(4), 2);
+        over(Desks.rich(), "P15 doubletAt(false, 9)", desk -> desk.doubletAt(false, 9), 300);
+        over(Desks.rich(), "P16 doubletCount()", CountedDesk::doubletCount, 10);
+        over(Desks.rich(), "P18 bestTriplet()", CountedDesk::bestTriplet, 204);
+        over(Desks.rich(), "P24 findWrongGlass",
+            desk -> desk.findWrongGlass(5308000520L, 5169219383L, 5113143509L), 2);
+        over(Desks.rich(), "P28 bestSurfaces(0)", desk -> desk.bestSurfaces(0), 20);
+        over(Desks.rich(), "P30 digest()", CountedDesk::digest, -3159568912972595622L);
+        over(new CountedDesk(), "P30 digest() of a new desk", CountedDesk::digest, 5283485657078775671L);
+    }
+
+    private static void over(CountedDesk desk, String call, ToLongFunction<CountedDesk> asked, long answer) {
+        while (desk.callsLeft() > 0) {
+            DUE.due(call + ", with " + desk.callsLeft() + " calls left", asked.applyAsLong(desk), answer);
+        }
     }
 }
