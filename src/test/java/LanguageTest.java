@@ -15,6 +15,8 @@ final class LanguageTest {
         "addExact", "subtractExact", "multiplyExact", "negateExact", "toIntExact", "incrementExact");
     private static final Pattern METHOD = Pattern.compile(
         "(?m)^ +(?:public |private |static |final )*[\\w\\[\\]]+ (\\w+)\\(([^)]*)\\) \\{$");
+    private static final Pattern ROW_OR_PART = Pattern.compile(
+        "private final \\w+\\[\\] \\w+ = new \\w+\\[\\w+\\];|\\w+ = new \\w+\\(\\);");
     private static final Pattern IMPORT = Pattern.compile("import ([^;]+);");
     private static final Due DUE = new Due();
 
@@ -23,6 +25,8 @@ final class LanguageTest {
         String code = text.replaceAll("(?s)/\\*.*?\\*/", "").replaceAll("//[^\n]*", "");
         forbiddenWords(code);
         imports(code);
+        divisors(code);
+        objects(code);
         classes(code);
         methods(text);
         DUE.end();
@@ -40,11 +44,25 @@ final class LanguageTest {
     }
 
     private static void imports(String code) {
-        List<String> allowed = List.of("java.util.ArrayList", "java.util.List", "java.util.Arrays", "java.util.Iterator");
+        List<String> allowed = List.of(
+            "java.util.ArrayList", "java.util.List", "java.util.Arrays", "java.util.Iterator");
         Matcher matcher = IMPORT.matcher(code);
         while (matcher.find()) {
             DUE.isTrue("rule 4: import " + matcher.group(1), allowed.contains(matcher.group(1)));
         }
+    }
+
+    /** floorQuotient looks at its divisor, and is the only one to divide by what is not written out. */
+    private static void divisors(String code) {
+        DUE.isTrue("rule 7: no remainder or quotient of an unknown divisor",
+            !Pattern.compile("[^/*][/%] *[a-z(]").matcher(code).find());
+        DUE.isTrue("rule 7: floorDiv in one place", code.split("floorDiv", -1).length == 2);
+    }
+
+    /** All rows are made with the desk, so that no call makes an object. */
+    private static void objects(String code) {
+        code.lines().filter(line -> line.matches(".*\\bnew\\b.*")).forEach(line ->
+            DUE.isTrue("rule 12: made with the desk: " + line.trim(), ROW_OR_PART.matcher(line.trim()).matches()));
     }
 
     private static void classes(String code) {
