@@ -149,7 +149,7 @@ final class DesignEdgesTest {
         DUE.due("P18 T is 1", desk.bestTriplet(), 102);
     }
 
-    /** Quotients so close below a whole number that a division of doubles reaches it. */
+    /** Quotients so close to a whole number that a division of doubles rounds to the wrong one. */
     private static void exactWhereDoublesAreNot() {
         CountedDesk powers = Due.deskWith("I 216597 215055 209449", "J 206645 206169 197296",
             "K 223262 219996 213901", "L 201727 200631 192667");
@@ -159,6 +159,12 @@ final class DesignEdgesTest {
             "K 220912 215665 212406", "L 209233 205373 199528");
         DUE.due("P14 exact", spectra.secondarySpectrum(0, 1, -8045), -1227152715);
         DUE.due("P14 exact", spectra.secondarySpectrum(2, 3, 5958), 476400022);
+        DUE.due("P17 exact", Due.deskWith("I 197503 195243 189662", "J 187127 180382 177440",
+            "K 144427 139624 138714").tripletPower(0, 1, 2, 9999, 1), -26048470347L);
+        DUE.due("P17 exact", Due.deskWith("I 191408 187058 187029", "J 195274 193674 187287",
+            "K 186473 182425 182252").tripletPower(0, 1, 2, 9999, 2), -1064876835);
+        DUE.due("P17 exact", Due.deskWith("I 191841 191465 184954", "J 228549 228019 218910",
+            "K 224965 217086 216923").tripletPower(0, 1, 2, -10000, 1), -300896803061423L);
     }
 
     private static void noE() {
